@@ -347,7 +347,7 @@ public final class LimitsTest extends Numbers {
     private static void manyWaysThroughFaces() {
         StartBench x = new StartBench();
         for (int i = 0; i < 36; i++) {
-            x.face(i >= 32);
+            x.face(i >= 16);
         }
         for (int i = 0; i < 32; i++) {
             for (int j = 0; j < 4; j++) {
@@ -363,10 +363,10 @@ public final class LimitsTest extends Numbers {
         due("not found, many ways", x.found(36, 8, false), NONE);
         due("below, many ways", x.below(36, 35), 1);
         due("told, many ways", x.told(35, 9), 33);
-        for (int i = 0; i < 4; i++) {
-            due("asks, many ways " + i, x.asks(36, i), 32 + i);
+        for (int i = 0; i < 20; i++) {
+            due("asks, many ways " + i, x.asks(36, i), lastRowsFirst(i));
         }
-        due("asks, no more", x.asks(36, 4), NONE);
+        due("asks, no more", x.asks(36, 20), NONE);
         due("round, many ways", x.round(0), NONE);
         x.world();
         for (int i = 0; i < 50; i++) {
@@ -376,9 +376,17 @@ public final class LimitsTest extends Numbers {
         }
         due("make, many ways", x.touch(0, MAKE, 36, 0, 0), 0);
         due("the owner began first", x.began(0, 0), 35);
-        due("then the others", x.began(0, 1), 32);
-        due("then the class", x.began(0, 4), 36);
+        due("then the others of its row", x.began(0, 1), 32);
+        for (int i = 4; i < 20; i++) {
+            due("then the other rows " + i, x.began(0, i), lastRowsFirst(i));
+        }
+        due("then the class", x.began(0, 20), 36);
+        due("no more", x.began(0, -1), 21);
         due("round in a world", x.round(0), NONE);
+    }
+
+    private static int lastRowsFirst(int i) {
+        return 32 - i / 4 * 4 + i % 4;
     }
 
     private static void longestChains() {

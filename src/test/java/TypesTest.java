@@ -541,6 +541,8 @@ public final class TypesTest extends Numbers {
         x.act(1, START, ASK, 1, 0, 0);
         x.act(1, START, ASK, 6, 0, 0);
         asks("11 each once, not itself", x, 1, 0, 4, 2, 5, 6);
+        x.under(4, 6);
+        asks("11 a face told to be under another one meanwhile", x, 1, 0, 6, 4, 2, 5);
     }
 
     private static void asksByActions() {

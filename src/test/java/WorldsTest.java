@@ -19,6 +19,7 @@ public final class WorldsTest extends Numbers {
         spent();
         many();
         differs();
+        differsAmongForty();
         refusedTouchesChangeNothing();
         Due.end();
     }
@@ -73,8 +74,8 @@ public final class WorldsTest extends Numbers {
         x.world();
         x.world();
         x.touch(0, WRITE, 0, 1, 7);
-        x.touch(0, ASK, 3, 0, 0);
         x.touch(0, CALL, 0, 3, 0);
+        x.touch(0, ASK, 3, 0, 0);
         due("14 there were two", x.gone(), 2);
         due("14 there were none then", x.gone(), 0);
         due("14 told", x.told(0, 1), 0);
@@ -422,6 +423,30 @@ public final class WorldsTest extends Numbers {
         }
         due("24 world 2", x.differs(2, 0), UNKNOWN);
         due("24 other 2", x.differs(0, 2), UNKNOWN);
+    }
+
+    private static void differsAmongForty() {
+        StartBench x = new StartBench();
+        for (int type = 0; type < 40; type++) {
+            x.cls(-1, false);
+            x.field(type, 0, false, 0);
+            x.field(type, 9, false, 0);
+        }
+        for (int world = 0; world < 3; world++) {
+            x.world();
+            for (int type = 17; type < 20; type++) {
+                x.touch(world, ASK, type, 0, 0);
+            }
+        }
+        x.touch(1, WRITE, 18, 0, 1);
+        x.touch(2, WRITE, 18, 9, 1);
+        due("24 by the NAME 0", x.differs(0, 1), 18);
+        due("24 by the NAME 9", x.differs(2, 0), 18);
+        due("24 by both", x.differs(1, 2), 18);
+        x.touch(0, WRITE, 18, 0, 1);
+        due("24 all 40 alike", x.differs(0, 1), NONE);
+        x.touch(0, ASK, 39, 0, 0);
+        due("24 the last of 40", x.differs(0, 1), 39);
     }
 
     private static void refusedTouchesChangeNothing() {
