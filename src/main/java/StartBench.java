@@ -78,18 +78,18 @@ public final class StartBench {
         if (above != -1 && description.types[above].isFace) {
             return OUTSIDE;
         }
-        return addType(new Type(false, open, above == -1 ? NONE : above));
+        return addType(false, open, above == -1 ? NONE : above);
     }
 
     public int face(boolean hasDefault) {
-        return addType(new Type(true, hasDefault, NONE));
+        return addType(true, hasDefault, NONE);
     }
 
-    private int addType(Type type) {
+    private int addType(boolean isFace, boolean special, int above) {
         if (worldCount > 0) {
             return STATE;
         }
-        return description.count >= MAX_TYPES ? FULL : description.append(type);
+        return description.count >= MAX_TYPES ? FULL : description.append(new Type(isFace, special, above));
     }
 
     public int under(int type, int face) {
