@@ -34,18 +34,6 @@ public final class LimitsTest extends Numbers {
         return x;
     }
 
-    private static void acts(StartBench x, int times, int type, int method, int kind, int n, int v) {
-        for (int i = 0; i < times; i++) {
-            x.act(type, method, kind, type, n, v);
-        }
-    }
-
-    private static void spentIs(String what, StartBench x, int... amounts) {
-        for (int i = 0; i < 4; i++) {
-            due(what + ", spent " + i, x.spent(0, i), amounts[i]);
-        }
-    }
-
     private static void overIs(String what, StartBench x, int came) {
         due(what + " comes to 5", came, TO_OVER);
         due(what + ", failed", x.failed(0, 0), NONE);

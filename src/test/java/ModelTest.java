@@ -6,6 +6,8 @@ import java.util.Random;
  */
 public final class ModelTest extends Numbers {
     private static final int RUNS = 3000;
+    /** What an object answers behind it is free. */
+    private static final int LAST_CALL = 512;
 
     private final Random dice;
     private final StartBench bench = new StartBench();
@@ -33,7 +35,7 @@ public final class ModelTest extends Numbers {
     private int run() {
         int over = 0;
         describe();
-        while (calls < 500) {
+        while (calls < LAST_CALL - 60) {
             over += use(90 + dice.nextInt(150));
             same("gone", bench.gone(), model.gone());
             worlds = 0;
@@ -42,6 +44,7 @@ public final class ModelTest extends Numbers {
             }
             lookAtDescription(4);
         }
+        Due.isTrue("seed " + seed + " makes " + calls + " calls", calls <= LAST_CALL);
         return over;
     }
 
@@ -156,7 +159,7 @@ public final class ModelTest extends Numbers {
     private int use(int times) {
         int over = 0;
         addWorld();
-        for (int i = 0; i < times && calls < 505; i++) {
+        for (int i = 0; i < times && calls < LAST_CALL - 40; i++) {
             int which = dice.nextInt(20);
             if (which == 0) {
                 addWorld();

@@ -32,45 +32,6 @@ public final class StartsTest extends Numbers {
         Due.end();
     }
 
-    private static void rowIs(String what, StartBench x, int world, int... types) {
-        due(what + ", how many began", x.began(world, -1), types.length);
-        for (int i = 0; i < types.length; i++) {
-            due(what + ", began " + i, x.began(world, i), types[i]);
-        }
-    }
-
-    private static void tapeIs(String what, StartBench x, int world, int... places) {
-        due(what + ", how many on the tape", x.tape(world, -1), places.length);
-        for (int i = 0; i < places.length; i++) {
-            due(what + ", place " + i, x.tape(world, i), places[i]);
-        }
-    }
-
-    private static void statesAre(String what, StartBench x, int world, int... states) {
-        for (int i = 0; i < states.length; i++) {
-            due(what + ", state of " + i, x.state(world, i), states[i]);
-        }
-    }
-
-    private static void failedIs(String what, StartBench x, int failure, int of) {
-        due(what + ", failed", x.failed(0, 0), failure);
-        due(what + ", of", x.failed(0, 1), of);
-    }
-
-    private static void spentIs(String what, StartBench x, int... amounts) {
-        for (int i = 0; i < 4; i++) {
-            due(what + ", spent " + i, x.spent(0, i), amounts[i]);
-        }
-    }
-
-    private static StartBench classes(int many) {
-        StartBench x = new StartBench();
-        for (int i = 0; i < many; i++) {
-            x.cls(-1, false);
-        }
-        return x;
-    }
-
     private static void orderOfClassesAndFaces() {
         StartBench x = new StartBench();
         x.cls(-1, true);

@@ -533,16 +533,16 @@ public final class TypesTest extends Numbers {
         x.under(5, 4);
         x.under(5, 2);
         x.under(0, 6);
-        asks("11 above, faces as started", x, 1, 0, 4, 2, 5);
-        asks("11 the one above has its own", x, 0, 6);
-        asks("11 a face asks for no faces", x, 5);
+        asksAre("11 above, faces as started", x, 1, 0, 4, 2, 5);
+        asksAre("11 the one above has its own", x, 0, 6);
+        asksAre("11 a face asks for no faces", x, 5);
         x.act(1, START, ASK, 5, 0, 0);
         x.act(1, START, ASK, 6, 0, 0);
         x.act(1, START, ASK, 1, 0, 0);
         x.act(1, START, ASK, 6, 0, 0);
-        asks("11 each once, not itself", x, 1, 0, 4, 2, 5, 6);
+        asksAre("11 each once, not itself", x, 1, 0, 4, 2, 5, 6);
         x.under(4, 6);
-        asks("11 a face told to be under another one meanwhile", x, 1, 0, 6, 4, 2, 5);
+        asksAre("11 a face told to be under another one meanwhile", x, 1, 0, 6, 4, 2, 5);
     }
 
     private static void asksByActions() {
@@ -563,18 +563,18 @@ public final class TypesTest extends Numbers {
         x.act(0, START, CALL, 2, 9, 0);
         x.act(0, START, MAKE, 3, 0, 0);
         x.act(0, START, MAKE, 4, 0, 0);
-        asks("11 looks, constants, ruled ones", x, 0);
+        asksAre("11 looks, constants, ruled ones", x, 0);
         x.act(0, START, CATCH, 0, 0, -1);
         x.act(0, START, CALL, 2, 2, 0);
-        asks("11 the one that has the method", x, 0, 1);
+        asksAre("11 the one that has the method", x, 0, 1);
         x.act(0, START, MAKE, 2, 0, 0);
         x.act(0, START, THROW, 0, 0, 3);
         x.act(0, START, ASK, 4, 0, 0);
-        asks("11 behind a throw, too; a face without default asked", x, 0, 1, 2, 4);
+        asksAre("11 behind a throw, too; a face without default asked", x, 0, 1, 2, 4);
         x.act(3, START, WRITE, 2, 0, 0);
-        asks("11 write of a plain one", x, 3, 1);
+        asksAre("11 write of a plain one", x, 3, 1);
         x.act(4, START, READ, 2, 0, 0);
-        asks("11 read of a plain one", x, 4, 1);
+        asksAre("11 read of a plain one", x, 4, 1);
     }
 
     private static void asksOfFace() {
@@ -583,12 +583,12 @@ public final class TypesTest extends Numbers {
         x.face(true);
         x.cls(-1, false);
         x.under(1, 0);
-        asks("11 a face starts no others", x, 1);
+        asksAre("11 a face starts no others", x, 1);
         x.act(1, START, MAKE, 2, 0, 0);
         x.act(1, START, ASK, 0, 0, 0);
-        asks("11 but by its body", x, 1, 2, 0);
+        asksAre("11 but by its body", x, 1, 2, 0);
         x.under(2, 1);
-        asks("11 a class by its face's face", x, 2, 0, 1);
+        asksAre("11 a class by its face's face", x, 2, 0, 1);
     }
 
     private static void asksRefused() {
@@ -601,14 +601,6 @@ public final class TypesTest extends Numbers {
         }
         due("11 type 2", x.asks(2, 0), UNKNOWN);
         due("11 place 1", x.asks(1, 1), NONE);
-    }
-
-    private static void asks(String what, StartBench x, int type, int... types) {
-        for (int i = 0; i < types.length; i++) {
-            due(what + ", place " + i, x.asks(type, i), types[i]);
-        }
-        due(what + ", then none", x.asks(type, types.length), NONE);
-        due(what + ", ahead none", x.asks(type, -1), NONE);
     }
 
     private static void round() {

@@ -336,11 +336,6 @@ public final class WorldsTest extends Numbers {
         due("21 world 2", x.failed(2, 0), UNKNOWN);
     }
 
-    private static void failedIs(String what, StartBench x, int failure, int of) {
-        due(what + ", the failure", x.failed(0, 0), failure);
-        due(what + ", of", x.failed(0, 1), of);
-    }
-
     private static void spent() {
         StartBench x = bench();
         x.world();
@@ -368,12 +363,6 @@ public final class WorldsTest extends Numbers {
         }
         due("22 what 4", x.spent(0, 4), OUTSIDE);
         due("22 world 1", x.spent(1, 0), UNKNOWN);
-    }
-
-    private static void spentIs(String what, StartBench x, int... amounts) {
-        for (int i = 0; i < 4; i++) {
-            due(what + ", what " + i, x.spent(0, i), amounts[i]);
-        }
     }
 
     private static void many() {
