@@ -8,11 +8,16 @@ public final class ModelTest extends Numbers {
     private static final int RUNS = 3000;
     /** What an object answers behind it is free. */
     private static final int LAST_CALL = 512;
+    /** What spent tells at a 5: of ACTIONS, BODIES, FAILURES; and how many touches came to it by that. */
+    private static final int[] LIMITS = {1000, 30, 41};
+    private static final int[] OVER = new int[LIMITS.length];
 
     private final Random dice;
     private final StartBench bench = new StartBench();
     private final Model model = new Model();
     private final int seed;
+    /** One number in so many is a wild one. */
+    private final int tame;
     private int calls;
     private int types;
     private int worlds;
@@ -20,23 +25,27 @@ public final class ModelTest extends Numbers {
     private ModelTest(int seed) {
         this.seed = seed;
         this.dice = new Random(seed);
+        this.tame = seed % 11 == 10 ? 6 : 60;
     }
 
     public static void main(String[] args) {
-        int over = 0;
         for (int seed = 0; seed < RUNS; seed++) {
-            over += new ModelTest(seed).run();
+            new ModelTest(seed).run();
         }
-        Due.isTrue("some of the touches came to 5", over > RUNS / 10);
+        for (int limit = 0; limit < LIMITS.length; limit++) {
+            Due.isTrue("touches came to 5 by " + limit + ": " + OVER[limit], OVER[limit] > RUNS / 10);
+        }
         Due.end();
     }
 
-    /** Answers how many touches came to 5. */
-    private int run() {
-        int over = 0;
-        describe();
+    private void run() {
+        if (seed % 4 == 2) {
+            describeDeep();
+        } else {
+            describe();
+        }
         while (calls < LAST_CALL - 60) {
-            over += use(90 + dice.nextInt(150));
+            use(90 + dice.nextInt(150));
             same("gone", bench.gone(), model.gone());
             worlds = 0;
             for (int i = dice.nextInt(12); i >= 0; i--) {
@@ -45,7 +54,6 @@ public final class ModelTest extends Numbers {
             lookAtDescription(4);
         }
         Due.isTrue("seed " + seed + " makes " + calls + " calls", calls <= LAST_CALL);
-        return over;
     }
 
     private void same(String call, int got, int want) {
@@ -53,16 +61,20 @@ public final class ModelTest extends Numbers {
         Due.due("seed " + seed + " call " + calls + " " + call, got, want);
     }
 
+    private int wildOr(int bound) {
+        return dice.nextInt(tame) == 0 ? WILD[dice.nextInt(WILD.length)] : dice.nextInt(bound);
+    }
+
     private int type() {
-        return dice.nextInt(60) == 0 ? WILD[dice.nextInt(WILD.length)] : dice.nextInt(Math.max(1, types));
+        return wildOr(Math.max(1, types));
     }
 
     private int world() {
-        return dice.nextInt(60) == 0 ? WILD[dice.nextInt(WILD.length)] : dice.nextInt(Math.max(1, worlds));
+        return wildOr(Math.max(1, worlds));
     }
 
     private int name() {
-        return dice.nextInt(60) == 0 ? WILD[dice.nextInt(WILD.length)] : dice.nextInt(seed % 2 == 0 ? 3 : 10);
+        return wildOr(seed % 2 == 0 ? 3 : 10);
     }
 
     private int place(int bound) {
@@ -78,6 +90,33 @@ public final class ModelTest extends Numbers {
             describeOne();
         }
         lookAtDescription(20);
+    }
+
+    /** Two TYPES of four METHODS, each of which mostly calls those behind it: a touch is near what it may spend. */
+    private void describeDeep() {
+        types = 2;
+        for (int type = 0; type < types; type++) {
+            same("cls", bench.cls(-1, false), model.cls(-1, false));
+            for (int name = 0; name < 4; name++) {
+                same("method " + type + " " + name, bench.method(type, name), model.method(type, name));
+            }
+        }
+        int quiet = dice.nextInt(8) + 1;
+        for (int from = 0; from < 8; from++) {
+            for (int i = dice.nextInt(8) + 3; i > 0; i--) {
+                if (dice.nextInt(quiet) == 0) {
+                    act(from / 4, from % 4, CATCH, 0, 0, -1);
+                    act(from / 4, from % 4, THROW, 0, 0, i);
+                }
+                int to = dice.nextInt(60) == 0 ? dice.nextInt(8) : from + 1 + dice.nextInt(3);
+                act(from / 4, from % 4, to > 7 ? MARK : CALL, to > 7 ? 0 : to / 4, to % 4, i);
+            }
+        }
+    }
+
+    private void act(int type, int method, int kind, int t, int n, int v) {
+        same("act " + type + " " + method + " " + kind + " " + t + " " + n + " " + v,
+            bench.act(type, method, kind, t, n, v), model.act(type, method, kind, t, n, v));
     }
 
     private void addType() {
@@ -101,7 +140,7 @@ public final class ModelTest extends Numbers {
             same("under " + type + " " + face, bench.under(type, face), model.under(type, face));
         } else if (which < 5) {
             boolean constant = dice.nextInt(3) == 0;
-            int value = dice.nextInt(9) - 4;
+            int value = wildOr(9);
             same("field " + type + " " + name, bench.field(type, name, constant, value),
                 model.field(type, name, constant, value));
         } else if (which < 7) {
@@ -120,12 +159,11 @@ public final class ModelTest extends Numbers {
         }
         int method = dice.nextInt(3) == 0 ? name() : START;
         int t = type();
-        int v = kind == CATCH ? (dice.nextInt(2) == 0 ? -1 : dice.nextInt(24)) : dice.nextInt(21);
+        int v = kind == CATCH ? (dice.nextInt(2) == 0 ? -1 : wildOr(24)) : wildOr(21);
         if (seed % 4 == 1 && kind == THROW) {
-            same("act catch", bench.act(type, method, CATCH, t, name, -1), model.act(type, method, CATCH, t, name, -1));
+            act(type, method, CATCH, t, name, -1);
         }
-        same("act " + type + " " + method + " " + kind + " " + t + " " + name + " " + v,
-            bench.act(type, method, kind, t, name, v), model.act(type, method, kind, t, name, v));
+        act(type, method, kind, t, name, v);
     }
 
     private void lookAtDescription(int times) {
@@ -155,9 +193,7 @@ public final class ModelTest extends Numbers {
         }
     }
 
-    /** Answers how many touches came to 5. */
-    private int use(int times) {
-        int over = 0;
+    private void use(int times) {
         addWorld();
         for (int i = 0; i < times && calls < LAST_CALL - 40; i++) {
             int which = dice.nextInt(20);
@@ -168,12 +204,11 @@ public final class ModelTest extends Numbers {
             } else if (which == 2) {
                 lookAtDescription(1);
             } else if (which < 10) {
-                over += touchOne();
+                touchOne();
             } else {
                 lookAtWorld();
             }
         }
-        return over;
     }
 
     private void addWorld() {
@@ -181,12 +216,12 @@ public final class ModelTest extends Numbers {
         worlds = model.told(0, 1);
     }
 
-    private int touchOne() {
+    private void touchOne() {
         int world = world();
         int kind = dice.nextInt(30) == 0 ? place(9) : 1 + dice.nextInt(5);
         int t = type();
         int n = name();
-        int v = dice.nextInt(9);
+        int v = wildOr(9);
         String call = world + " " + kind + " " + t + " " + n + " " + v;
         int came = model.foretell(world, kind, t, n, v);
         if (dice.nextInt(3) == 0) {
@@ -199,7 +234,9 @@ public final class ModelTest extends Numbers {
         }
         int what = place(4);
         same("spent " + world + " " + what, bench.spent(world, what), model.spent(world, what));
-        return came == TO_OVER ? 1 : 0;
+        for (int limit = 0; came == TO_OVER && limit < LIMITS.length; limit++) {
+            OVER[limit] += model.spent(world, limit) == LIMITS[limit] ? 1 : 0;
+        }
     }
 
     private void lookAtWorld() {

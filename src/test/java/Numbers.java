@@ -9,7 +9,7 @@ abstract class Numbers {
     static final int LEAST = Integer.MIN_VALUE, MOST = Integer.MAX_VALUE;
 
     /** Numbers that are no TYPE, WORLD or NAME of a bench with a few of each. */
-    static final int[] WILD = {-1, -2, -6, 40, 64, 1000, LEAST, MOST};
+    static final int[] WILD = {-1, -2, -6, 40, 64, 300, 1000, LEAST, LEAST + 1, MOST - 1, MOST};
 
     static void due(String call, long got, long want) {
         Due.due(call, got, want);
